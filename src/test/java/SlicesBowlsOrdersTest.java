@@ -10,6 +10,7 @@ public final class SlicesBowlsOrdersTest {
         whose();
         two();
         bowl();
+        bowlThereAndBack();
         bowlModulo();
         order();
         clear();
@@ -161,6 +162,24 @@ public final class SlicesBowlsOrdersTest {
         due("no column meets another", x.bowl(2, 2, 0), 0);
         due("no bowl", x.bowl(12, 2, 1), NONE);
         due("e", e, 14);
+    }
+
+    /** A picture that meets itself only if it is turned by two, so that no turn can be missed. */
+    private static void bowlThereAndBack() {
+        CaneHouse x = new CaneHouse();
+        int[] cells = {1, 3, 2, 1, 4, 2, 1, 5, 2};
+        x.table(3);
+        for (int g = 1; g <= 5; g++) {
+            x.rod(g, 30);
+        }
+        for (int i = 0; i < 9; i++) {
+            x.lay(i % 3, i / 3, cells[i] - 1, 0);
+        }
+        due("its number", x.bundle(10), 5);
+        for (int n = 2; n <= 12; n++) {
+            due("ways there and back", x.bowl(n, 3, 0), n % 2 == 0 ? 2 : 0);
+            due("cheapest there and back", x.bowl(n, 3, 1), n % 2 == 0 ? 9 * n : NONE);
+        }
     }
 
     private static void bowlModulo() {
