@@ -11,6 +11,7 @@ public final class SlicesBowlsOrdersTest {
         two();
         bowl();
         bowlThereAndBack();
+        bowlOfNearlyEqualColumns();
         bowlModulo();
         order();
         clear();
@@ -180,6 +181,24 @@ public final class SlicesBowlsOrdersTest {
             due("ways there and back", x.bowl(n, 3, 0), n % 2 == 0 ? 2 : 0);
             due("cheapest there and back", x.bowl(n, 3, 1), n % 2 == 0 ? 9 * n : NONE);
         }
+    }
+
+    private static void bowlOfNearlyEqualColumns() {
+        CaneHouse x = new CaneHouse();
+        fourCells(x, 2, 3, 8, 8);
+        due("2 over 8 is not 3 over 8", x.bowl(2, 2, 0), 0);
+        CaneHouse y = new CaneHouse();
+        int corner = fourCells(y, 2, 1, 1, 1);
+        int plain = fourCells(y, 1, 1, 1, 1);
+        y.table(4);
+        for (int i = 0; i < 16; i++) {
+            y.lay(i % 4, i / 4, i == 0 ? corner : plain, 0);
+        }
+        due("its number", y.bundle(2), 10);
+        // The corner cell is in the first column or in the last one, at the top or at the bottom.
+        due("two of side 8", y.bowl(2, 8, 0), 4);
+        due("three of side 8", y.bowl(3, 8, 0), 0);
+        due("cheapest of side 8", y.bowl(4, 8, 1), 256);
     }
 
     private static void bowlModulo() {
